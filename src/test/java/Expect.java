@@ -1,0 +1,47 @@
+/** Counts the answers that are not the ones that are due. */
+final class Expect {
+    private static int checked = 0;
+    private static int wrong = 0;
+
+    interface Call {
+        Object answer();
+    }
+
+    private Expect() {
+    }
+
+    static void same(String what, Object got, Object due) {
+        checked++;
+        if (!due.equals(got)) {
+            wrong++;
+            System.out.println(what + ": answered " + got + ", due is " + due);
+        }
+    }
+
+    /** The exception has to be of this very class: what the machine throws is of a class below it. */
+    static void fails(String what, Class<? extends RuntimeException> due, Call call) {
+        same(what, outcomeOf(call), due);
+    }
+
+    /** The call has to fail and to change nothing that can be asked. */
+    static void failsAlone(Fieldbook book, String what, Class<? extends RuntimeException> due, Call call) {
+        String before = Picture.of(book);
+        fails(what, due, call);
+        same(what + " changes nothing", Picture.of(book), before);
+    }
+
+    static Object outcomeOf(Call call) {
+        try {
+            return call.answer();
+        } catch (RuntimeException thrown) {
+            return thrown.getClass();
+        }
+    }
+
+    static void end() {
+        System.out.println(checked + " answers looked at, " + wrong + " wrong");
+        if (wrong != 0 || checked == 0) {
+            System.exit(1);
+        }
+    }
+}
