@@ -271,31 +271,71 @@ public final class WeightsTest {
         Expect.same("25 a mean of 0", zero.weightedMean(), 0.0);
     }
 
-    /** All of 512 calls: the weights anew have to come from every visit, to the last one. */
+    /**
+     * As many visits and checks as a study can well hold: nobody is at home twice, then one interviewer behind the
+     * other asks the houses, and all but the last one are barred.
+     */
     private static void longStudy() {
-        Fieldbook book = new Fieldbook();
-        book.addStratum();
-        book.addStratum();
+        int[][] houses = new int[24][];
         for (int house = 0; house < 24; house++) {
-            book.addHouse(house % 2, 50, house % 3);
+            houses[house] = new int[] {house % 4, house % 3};
         }
-        book.draw(0, 12);
-        book.draw(1, 11);
+        Fieldbook book = onDayOne(houses);
         book.addInterviewer(50, 7, 600);
         book.addInterviewer(50, 7, 600);
-        int calls = 2 + 24 + 2 + 2;
-        for (int house = 0; calls < 508; house = (house + 1) % 24) {
-            if (house == 0) {
-                book.endDay();
-                calls++;
-            }
+        int[] takers = new int[24];
+        tellAll(book, 'n', takers);
+        book.endDay();
+        tellAll(book, 'n', takers);
+        Studies.endDays(book, 2);
+        for (int interviewer = 0; interviewer < 3; interviewer++) {
+            tellAll(book, 'a', takers);
+            expectAgreement(book);
+            int answers = book.answersTo(interviewer);
+            checkAllAnswers(book, interviewer, takers);
+            Expect.same("19 many answers", answers >= 20, true);
+            Expect.same("19 all of them are gone", book.answersTo(interviewer), 0);
+            expectAgreement(book);
+            book.endDay();
+        }
+        tellAll(book, 'a', takers);
+        Expect.same("19 the last interviewer", book.answersTo(3), 24);
+        expectAgreement(book);
+    }
+
+    private static void tellAll(Fieldbook book, char outcome, int[] takers) {
+        for (int house = 0; house < 24; house++) {
             int asked = house;
-            char outcome = house == 23 || calls % 7 == 0 ? 'a' : 'n';
-            Expect.outcomeOf(() -> book.visit(asked, outcome, 5));
-            calls++;
+            Object taker = Expect.outcomeOf(() -> book.visit(asked, outcome, asked % 10));
+            if (taker instanceof Integer) {
+                takers[house] = (Integer) taker;
+            }
+        }
+    }
+
+    /** All unchecked answers to the interviewer are right but for the last two. */
+    private static void checkAllAnswers(Fieldbook book, int interviewer, int[] takers) {
+        int left = book.answersTo(interviewer);
+        for (int house = 0; house < 24; house++) {
+            if (book.stateOf(house) == 'a' && takers[house] == interviewer) {
+                int asked = house;
+                int answer = left > 2 ? house % 10 : (house + 1) % 10;
+                Expect.same("12 house " + house, Expect.outcomeOf(() -> book.check(asked, answer)), left > 2);
+                left--;
+            }
+        }
+    }
+
+    private static void expectAgreement(Fieldbook book) {
+        for (int house = 0; house < 24; house++) {
+            if (book.stateOf(house) == 'a') {
+                Expect.same("22 house " + house, book.weightAnew(house), book.weight(house));
+            } else {
+                int asked = house;
+                Expect.fails("22 house " + house, NoSuchElementException.class, () -> book.weightAnew(asked));
+            }
         }
         Expect.same("27 sound", book.isSound(), true);
-        Expect.same("21 and 22 agree", book.weightAnew(23), book.weight(23));
     }
 
     private static void errors() {
