@@ -14,8 +14,8 @@ public final class ChecksTest {
         Expect.end();
     }
 
-    private static Fieldbook onDayOne(int... places) {
-        Fieldbook book = Studies.drawn(places);
+    private static Study onDayOne(int... places) {
+        Study book = Studies.drawn(places);
         book.addInterviewer(50, 1, 150);
         book.addInterviewer(50, 1, 600);
         book.endDay();
@@ -23,7 +23,7 @@ public final class ChecksTest {
     }
 
     private static void sameAnswer() {
-        Fieldbook book = onDayOne(50);
+        Study book = onDayOne(50);
         book.visit(0, 'a', 6);
         Expect.same("12 the same", book.check(0, 6), true);
         Expect.same("18 no fault", book.faults(0), 0);
@@ -34,7 +34,7 @@ public final class ChecksTest {
     }
 
     private static void faultsAddUp() {
-        Fieldbook book = onDayOne(50);
+        Study book = onDayOne(50);
         book.visit(0, 'a', 6);
         Expect.same("12 another one", book.check(0, 9), false);
         Expect.same("18 one fault", book.faults(0), 1);
@@ -52,7 +52,7 @@ public final class ChecksTest {
 
     /** Five houses at 50 fill the first interviewer's 150 minutes, the sixth is left for the second one. */
     private static void barring() {
-        Fieldbook book = onDayOne(50, 50, 50, 50, 50, 50);
+        Study book = onDayOne(50, 50, 50, 50, 50, 50);
         for (int house = 0; house < 4; house++) {
             book.visit(house, 'a', house);
         }
@@ -78,7 +78,7 @@ public final class ChecksTest {
     }
 
     private static void checkedOncePerAnswer() {
-        Fieldbook book = onDayOne(50, 50);
+        Study book = onDayOne(50, 50);
         book.visit(0, 'a', 1);
         book.visit(1, 'a', 1);
         book.check(0, 2);
@@ -92,7 +92,7 @@ public final class ChecksTest {
     }
 
     private static void checkErrors() {
-        Fieldbook book = onDayOne(50, 50, 50, 50, 50, 50, 50);
+        Study book = onDayOne(50, 50, 50, 50, 50, 50, 50);
         book.addHouse(0, 50, 0);
         book.visit(0, 'a', 1);
         book.visit(1, 'n', 1);
@@ -114,7 +114,7 @@ public final class ChecksTest {
     }
 
     private static void endDayReplaces() {
-        Fieldbook book = new Fieldbook();
+        Study book = new Study();
         book.addStratum();
         book.addStratum();
         for (int house = 0; house < 4; house++) {
@@ -156,7 +156,7 @@ public final class ChecksTest {
 
     /** Two strata with two undrawn houses each; the losses are told from the last house to the first one. */
     private static void replacementsByRisingNumbers() {
-        Fieldbook book = new Fieldbook();
+        Study book = new Study();
         book.addStratum();
         book.addStratum();
         book.addHouse(0, 50, 0);
@@ -184,7 +184,7 @@ public final class ChecksTest {
     }
 
     private static void nothingToReplaceWith() {
-        Fieldbook book = Studies.drawn(50, 50, 50);
+        Study book = Studies.drawn(50, 50, 50);
         book.addHouse(0, 50, 0);
         book.addInterviewer(50, 1, 600);
         book.endDay();
@@ -203,7 +203,7 @@ public final class ChecksTest {
     }
 
     private static void lastDay() {
-        Fieldbook book = Studies.drawn(50, 50);
+        Study book = Studies.drawn(50, 50);
         book.addInterviewer(50, 1, 600);
         Studies.endDays(book, 99);
         book.addHouse(0, 50, 0);
@@ -217,7 +217,7 @@ public final class ChecksTest {
     }
 
     private static void askErrors() {
-        Fieldbook book = new Fieldbook();
+        Study book = new Study();
         book.addInterviewer(0, 1, 30);
         for (int number : new int[] {-1, 1, 4, Integer.MIN_VALUE, Integer.MAX_VALUE}) {
             Expect.fails("18 number", IndexOutOfBoundsException.class, () -> book.faults(number));

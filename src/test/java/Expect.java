@@ -2,6 +2,7 @@
 final class Expect {
     private static int checked = 0;
     private static int wrong = 0;
+    private static String heading = "";
 
     interface Call {
         Object answer();
@@ -10,11 +11,16 @@ final class Expect {
     private Expect() {
     }
 
+    /** What is wrong from here on is told under this heading. */
+    static void begin(String next) {
+        heading = next.isEmpty() ? "" : next + "\n    ";
+    }
+
     static void same(String what, Object got, Object due) {
         checked++;
         if (!due.equals(got)) {
             wrong++;
-            System.out.println(what + ": answered " + got + ", due is " + due);
+            System.out.println(heading + what + ": answered " + got + ", due is " + due);
         }
     }
 
@@ -23,11 +29,11 @@ final class Expect {
         same(what, outcomeOf(call), due);
     }
 
-    /** The call has to fail and to change nothing that can be asked. */
-    static void failsAlone(Fieldbook book, String what, Class<? extends RuntimeException> due, Call call) {
-        String before = Picture.of(book);
+    /** The call has to fail and to change nothing that can be asked, now or when the study goes on. */
+    static void failsAlone(Study study, String what, Class<? extends RuntimeException> due, Call call) {
+        String before = Picture.of(study);
         fails(what, due, call);
-        same(what + " changes nothing", Picture.of(book), before);
+        same(what + " changes nothing", Picture.of(study), before);
     }
 
     static Object outcomeOf(Call call) {
@@ -36,6 +42,10 @@ final class Expect {
         } catch (RuntimeException thrown) {
             return thrown.getClass();
         }
+    }
+
+    static int checked() {
+        return checked;
     }
 
     static void end() {

@@ -1,10 +1,12 @@
 /** Runs of 512 calls, chosen by a fixed sequence of numbers, on the program and on the model. */
 public final class ModelTest {
-    private static final int RUNS = 1500;
+    private static final int RUNS = 5000;
     private static final int CALLS = 512;
     private static final String OUTCOMES = "aaaaannrrex";
 
     private long seed;
+    private int calls;
+    private String name;
     private Fieldbook book;
     private Model model;
     private final StringBuilder states = new StringBuilder();
@@ -30,25 +32,39 @@ public final class ModelTest {
         return next(25) == 0 ? (next(2) == 0 ? low - 1 : high + 1) : low + next(high - low + 1);
     }
 
+    /** What an object answers behind its 512th call is free, so no more are made of it. */
     private void compare(String call, Expect.Call ofBook, Expect.Call ofModel) {
-        Expect.same(call, Expect.outcomeOf(ofBook), Expect.outcomeOf(ofModel));
+        if (calls < CALLS) {
+            calls++;
+            Expect.same(name + " " + call, Expect.outcomeOf(ofBook), Expect.outcomeOf(ofModel));
+        }
     }
 
     private void run(int run) {
         seed = run;
+        calls = 0;
         book = new Fieldbook();
         model = new Model();
         int begin = 20 + next(40);
-        for (int call = 0; call < CALLS; call++) {
-            String name = "run " + run + " call " + call;
-            if (call < begin) {
-                setUp(name);
+        // Runs that ask little come far; runs that ask much see each step.
+        int asks = next(3) == 0 ? 60 : 15;
+        while (calls < CALLS) {
+            name = "run " + run + " call " + calls;
+            if (calls < begin) {
+                setUp();
+            } else if (next(100) < asks) {
+                ask();
             } else {
-                work(name);
+                work();
             }
         }
+        noteStates();
+    }
+
+    private void noteStates() {
         for (int house = 0; house < 24; house++) {
-            Object state = stateOf(house);
+            int asked = house;
+            Object state = Expect.outcomeOf(() -> model.stateOf(asked));
             note(state instanceof Character ? (Character) state : 'u');
         }
         for (int interviewer = 0; interviewer < 4; interviewer++) {
@@ -57,17 +73,13 @@ public final class ModelTest {
         }
     }
 
-    private Object stateOf(int house) {
-        return Expect.outcomeOf(() -> model.stateOf(house));
-    }
-
     private void note(char what) {
         if (states.indexOf("" + what) < 0) {
             states.append(what);
         }
     }
 
-    private void setUp(String name) {
+    private void setUp() {
         int stratum = oneOf(0, 3);
         int place = oneOf(0, 99);
         int language = oneOf(0, 2);
@@ -76,47 +88,44 @@ public final class ModelTest {
         int count = next(8) == 0 ? oneOf(1, 24) : 1 + next(4);
         switch (next(8)) {
             case 0:
-                compare(name + " addStratum", () -> book.addStratum(), () -> model.addStratum());
+                compare("addStratum", () -> book.addStratum(), () -> model.addStratum());
                 break;
             case 1:
-                compare(name + " addInterviewer", () -> book.addInterviewer(place, languages, minutes),
+                compare("addInterviewer", () -> book.addInterviewer(place, languages, minutes),
                         () -> model.addInterviewer(place, languages, minutes));
                 break;
             case 2:
-                compare(name + " draw", () -> book.draw(stratum, count), () -> model.draw(stratum, count));
+                compare("draw", () -> book.draw(stratum, count), () -> model.draw(stratum, count));
                 break;
             default:
-                compare(name + " addHouse", () -> book.addHouse(stratum, place, language),
+                compare("addHouse", () -> book.addHouse(stratum, place, language),
                         () -> model.addHouse(stratum, place, language));
                 break;
         }
     }
 
-    private void work(String name) {
-        int kind = next(100);
+    private void work() {
+        int kind = next(68);
         if (kind < 2) {
-            setUp(name);
+            setUp();
         } else if (kind < 4) {
             int chance = oneOf(0, 65535);
-            compare(name + " setChance", () -> book.setChance(chance), () -> model.setChance(chance));
+            compare("setChance", () -> book.setChance(chance), () -> model.setChance(chance));
         } else if (kind < 8) {
             int stratum = oneOf(0, 3);
             int count = 1 + next(3);
-            compare(name + " draw", () -> book.draw(stratum, count), () -> model.draw(stratum, count));
+            compare("draw", () -> book.draw(stratum, count), () -> model.draw(stratum, count));
         } else if (kind < 22) {
-            compare(name + " endDay", () -> book.endDay(), () -> model.endDay());
+            compare("endDay", () -> book.endDay(), () -> model.endDay());
         } else if (kind < 60) {
             int house = houseToVisit();
             char outcome = OUTCOMES.charAt(next(OUTCOMES.length()));
             int answer = oneOf(0, 9);
-            compare(name + " visit", () -> book.visit(house, outcome, answer),
-                    () -> model.visit(house, outcome, answer));
-        } else if (kind < 68) {
+            compare("visit", () -> book.visit(house, outcome, answer), () -> model.visit(house, outcome, answer));
+        } else {
             int house = oneOf(0, 23);
             int answer = next(3) == 0 ? oneOf(0, 9) : answerOf(house);
-            compare(name + " check", () -> book.check(house, answer), () -> model.check(house, answer));
-        } else {
-            ask(name);
+            compare("check", () -> book.check(house, answer), () -> model.check(house, answer));
         }
     }
 
@@ -132,34 +141,47 @@ public final class ModelTest {
         return answer instanceof Integer ? (Integer) answer : 0;
     }
 
-    private void ask(String name) {
-        int house = oneOf(0, 23);
-        int interviewer = oneOf(0, 3);
-        int index = oneOf(0, 5);
-        int group = oneOf(0, 2);
-        compare(name + " day", () -> book.day(), () -> model.day());
-        compare(name + " roundSize", () -> book.roundSize(interviewer), () -> model.roundSize(interviewer));
-        compare(name + " roundAt", () -> book.roundAt(interviewer, index), () -> model.roundAt(interviewer, index));
-        compare(name + " roundMinutes", () -> book.roundMinutes(interviewer),
-                () -> model.roundMinutes(interviewer));
-        compare(name + " stateOf", () -> book.stateOf(house), () -> model.stateOf(house));
-        compare(name + " wantedFrom", () -> book.wantedFrom(house), () -> model.wantedFrom(house));
-        compare(name + " codeOf", () -> book.codeOf(house), () -> model.codeOf(house));
-        compare(name + " answerOf", () -> book.answerOf(house), () -> model.answerOf(house));
-        compare(name + " faults", () -> book.faults(interviewer), () -> model.faults(interviewer));
-        compare(name + " answersTo", () -> book.answersTo(interviewer), () -> model.answersTo(interviewer));
-        compare(name + " target", () -> book.target(group), () -> model.target(group));
-        compare(name + " weight", () -> book.weight(house), () -> model.weight(house));
-        compare(name + " weightAnew", () -> book.weightAnew(house), () -> model.weight(house));
-        compare(name + " weightOfLanguage", () -> book.weightOfLanguage(group),
-                () -> model.weightOfLanguage(group));
-        compare(name + " weightedSum", () -> book.weightedSum(), () -> model.weightedSum());
-        compare(name + " weightedMean", () -> book.weightedMean(), () -> model.weightedMean());
-        compare(name + " rate", () -> book.rate(), () -> model.rate());
-        compare(name + " isSound", () -> book.isSound(), () -> true);
-        Object weight = Expect.outcomeOf(() -> model.weight(house));
-        if (Integer.valueOf(0).equals(weight)) {
+    private void ask() {
+        switch (next(3)) {
+            case 0:
+                askRounds(oneOf(0, 3), oneOf(0, 5));
+                break;
+            case 1:
+                askHouse(oneOf(0, 23));
+                break;
+            default:
+                askSums(oneOf(0, 3), oneOf(0, 2));
+                break;
+        }
+    }
+
+    private void askRounds(int interviewer, int index) {
+        compare("day", () -> book.day(), () -> model.day());
+        compare("roundSize", () -> book.roundSize(interviewer), () -> model.roundSize(interviewer));
+        compare("roundAt", () -> book.roundAt(interviewer, index), () -> model.roundAt(interviewer, index));
+        compare("roundMinutes", () -> book.roundMinutes(interviewer), () -> model.roundMinutes(interviewer));
+        compare("faults", () -> book.faults(interviewer), () -> model.faults(interviewer));
+        compare("answersTo", () -> book.answersTo(interviewer), () -> model.answersTo(interviewer));
+    }
+
+    private void askHouse(int house) {
+        compare("stateOf", () -> book.stateOf(house), () -> model.stateOf(house));
+        compare("wantedFrom", () -> book.wantedFrom(house), () -> model.wantedFrom(house));
+        compare("codeOf", () -> book.codeOf(house), () -> model.codeOf(house));
+        compare("answerOf", () -> book.answerOf(house), () -> model.answerOf(house));
+        compare("weight", () -> book.weight(house), () -> model.weight(house));
+        compare("weightAnew", () -> book.weightAnew(house), () -> model.weight(house));
+        if (Integer.valueOf(0).equals(Expect.outcomeOf(() -> model.weight(house)))) {
             note('0');
         }
+    }
+
+    private void askSums(int stratum, int language) {
+        compare("target", () -> book.target(stratum), () -> model.target(stratum));
+        compare("weightOfLanguage", () -> book.weightOfLanguage(language), () -> model.weightOfLanguage(language));
+        compare("weightedSum", () -> book.weightedSum(), () -> model.weightedSum());
+        compare("weightedMean", () -> book.weightedMean(), () -> model.weightedMean());
+        compare("rate", () -> book.rate(), () -> model.rate());
+        compare("isSound", () -> book.isSound(), () -> true);
     }
 }

@@ -1,55 +1,105 @@
-/** All that can be asked of a study, as one text. */
+/** All that can be asked of a study, and what it does when it goes on, as one text. */
 final class Picture {
-    private Picture() {
+    /** The most calls that a picture makes of one object, with some to spare. */
+    private static final int CALLS = 280;
+
+    private final StringBuilder text = new StringBuilder();
+    private final Fieldbook book;
+
+    private Picture(Fieldbook book) {
+        this.book = book;
     }
 
-    static String of(Fieldbook book) {
-        StringBuilder text = new StringBuilder();
-        int chance = book.setChance(0);
-        book.setChance(chance);
-        text.append("chance ").append(chance).append(" day ").append(book.day());
+    /** What is kept and can't be asked, such as which visits were told, shows only when the study goes on. */
+    static String of(Study study) {
+        if (study.callsToMakeItAgain() + CALLS > Study.MOST_CALLS) {
+            throw new AssertionError("the study is too long for a picture of it");
+        }
+        Picture now = new Picture(study.again());
+        now.putNow();
+        Picture later = new Picture(study.again());
+        later.putLater();
+        return now.text + "\n" + later.text;
+    }
+
+    private void putNow() {
+        put("day", book::day);
+        put("chance", () -> book.setChance(0));
         for (int stratum = -1; stratum <= 4; stratum++) {
             int asked = stratum;
-            put(text, "target " + asked, () -> book.target(asked));
+            put("target " + asked, () -> book.target(asked));
         }
         for (int interviewer = -1; interviewer <= 4; interviewer++) {
-            putInterviewer(text, book, interviewer);
+            putInterviewer(interviewer);
         }
         for (int house = -1; house <= 24; house++) {
-            putHouse(text, book, house);
+            putHouse(house);
         }
         for (int language = -1; language <= 3; language++) {
             int asked = language;
-            put(text, "weightOfLanguage " + asked, () -> book.weightOfLanguage(asked));
+            put("weightOfLanguage " + asked, () -> book.weightOfLanguage(asked));
         }
-        put(text, "weightedSum", book::weightedSum);
-        put(text, "weightedMean", book::weightedMean);
-        put(text, "rate", book::rate);
-        put(text, "isSound", book::isSound);
-        return text.toString();
+        put("weightedSum", book::weightedSum);
+        put("weightedMean", book::weightedMean);
+        put("rate", book::rate);
+        put("isSound", book::isSound);
     }
 
-    private static void putInterviewer(StringBuilder text, Fieldbook book, int asked) {
-        put(text, "interviewer " + asked + " roundSize", () -> book.roundSize(asked));
-        put(text, "roundMinutes", () -> book.roundMinutes(asked));
-        put(text, "faults", () -> book.faults(asked));
-        put(text, "answersTo", () -> book.answersTo(asked));
-        for (int index = -1; index <= 24; index++) {
+    private void putInterviewer(int asked) {
+        Object size = put("roundSize " + asked, () -> book.roundSize(asked));
+        put("roundMinutes", () -> book.roundMinutes(asked));
+        put("faults", () -> book.faults(asked));
+        put("answersTo", () -> book.answersTo(asked));
+        for (int index = 0; size instanceof Integer && index < (Integer) size; index++) {
             int place = index;
-            put(text, "at " + place, () -> book.roundAt(asked, place));
+            put("at " + place, () -> book.roundAt(asked, place));
         }
     }
 
-    private static void putHouse(StringBuilder text, Fieldbook book, int asked) {
-        put(text, "house " + asked + " stateOf", () -> book.stateOf(asked));
-        put(text, "wantedFrom", () -> book.wantedFrom(asked));
-        put(text, "codeOf", () -> book.codeOf(asked));
-        put(text, "answerOf", () -> book.answerOf(asked));
-        put(text, "weight", () -> book.weight(asked));
-        put(text, "weightAnew", () -> book.weightAnew(asked));
+    private void putHouse(int asked) {
+        put("house " + asked + " stateOf", () -> book.stateOf(asked));
+        put("wantedFrom", () -> book.wantedFrom(asked));
+        put("codeOf", () -> book.codeOf(asked));
+        put("answerOf", () -> book.answerOf(asked));
+        put("weight", () -> book.weight(asked));
+        put("weightAnew", () -> book.weightAnew(asked));
     }
 
-    private static void put(StringBuilder text, String what, Expect.Call call) {
-        text.append('\n').append(what).append(' ').append(Expect.outcomeOf(call));
+    private void putLater() {
+        for (int stratum = 0; stratum < 4; stratum++) {
+            int asked = stratum;
+            put("draw " + asked, () -> book.draw(asked, 1));
+        }
+        for (int house = 0; house < 24; house++) {
+            int asked = house;
+            put("check " + asked, () -> book.check(asked, 9));
+        }
+        visitAll('n');
+        put("endDay", book::endDay);
+        visitAll('r');
+        for (int day = 0; day < 3; day++) {
+            put("endDay", book::endDay);
+        }
+        visitAll('r');
+        for (int house = 0; house < 24; house++) {
+            int asked = house;
+            put("code " + asked, () -> book.codeOf(asked));
+        }
+        put("addInterviewer", () -> book.addInterviewer(0, 7, 600));
+        put("addStratum", book::addStratum);
+        put("addHouse", () -> book.addHouse(0, 0, 0));
+    }
+
+    private void visitAll(char outcome) {
+        for (int house = 0; house < 24; house++) {
+            int asked = house;
+            put("visit " + asked + " " + outcome, () -> book.visit(asked, outcome, 0));
+        }
+    }
+
+    private Object put(String what, Expect.Call call) {
+        Object outcome = Expect.outcomeOf(call);
+        text.append(what).append(' ').append(outcome).append('\n');
+        return outcome;
     }
 }

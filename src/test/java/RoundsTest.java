@@ -20,7 +20,7 @@ public final class RoundsTest {
         Expect.end();
     }
 
-    private static void expectRound(String what, Fieldbook book, int interviewer, int minutes, int... houses) {
+    private static void expectRound(String what, Study book, int interviewer, int minutes, int... houses) {
         Expect.same(what + ": size", book.roundSize(interviewer), houses.length);
         Expect.same(what + ": minutes", book.roundMinutes(interviewer), minutes);
         for (int index = 0; index < houses.length && index < book.roundSize(interviewer); index++) {
@@ -29,7 +29,7 @@ public final class RoundsTest {
     }
 
     private static void dayCounts() {
-        Fieldbook book = new Fieldbook();
+        Study book = new Study();
         for (int day = 0; day < 99; day++) {
             Expect.same("7 day", book.day(), day);
             book.endDay();
@@ -38,7 +38,7 @@ public final class RoundsTest {
     }
 
     private static void noRoundsOnDayZero() {
-        Fieldbook book = Studies.drawn(10, 20);
+        Study book = Studies.drawn(10, 20);
         book.addInterviewer(10, 1, 600);
         expectRound("8 day 0", book, 0, 0);
         book.endDay();
@@ -46,7 +46,7 @@ public final class RoundsTest {
     }
 
     private static void nearestFirst() {
-        Fieldbook book = Studies.drawn(90, 10, 47, 55);
+        Study book = Studies.drawn(90, 10, 47, 55);
         book.addInterviewer(50, 1, 600);
         book.endDay();
         // From 50 to 47, 55, 90 and 10, and home: 3 + 8 + 35 + 80 + 40 minutes on the way.
@@ -54,24 +54,24 @@ public final class RoundsTest {
     }
 
     private static void lowestNumberOfSeveral() {
-        Fieldbook book = Studies.drawn(60, 40, 60, 50, 40);
+        Study book = Studies.drawn(60, 40, 60, 50, 40);
         book.addInterviewer(50, 1, 600);
         book.endDay();
         expectRound("9 lowest number", book, 0, 150 + 40, 3, 0, 2, 1, 4);
     }
 
     private static void onlyWhatFits() {
-        Fieldbook book = Studies.drawn(35);
+        Study book = Studies.drawn(35);
         book.addInterviewer(0, 1, 99);
         book.addInterviewer(0, 1, 100);
         book.endDay();
         expectRound("8 one minute short", book, 0, 0);
         expectRound("8 just fits", book, 1, 100, 0);
-        Fieldbook two = Studies.drawn(10, 20);
+        Study two = Studies.drawn(10, 20);
         two.addInterviewer(0, 1, 99);
         two.endDay();
         expectRound("8 the second is one minute too long", two, 0, 50, 0);
-        Fieldbook both = Studies.drawn(10, 20);
+        Study both = Studies.drawn(10, 20);
         both.addInterviewer(0, 1, 100);
         both.endDay();
         expectRound("8 the second fits", both, 0, 100, 0, 1);
@@ -79,24 +79,24 @@ public final class RoundsTest {
 
     private static void nearestOfThoseThatFit() {
         // Behind the house at 20, the one at 31 is nearer than that at 8, but the way home is too long.
-        Fieldbook book = Studies.drawn(20, 31, 8);
+        Study book = Studies.drawn(20, 31, 8);
         book.addInterviewer(0, 1, 112);
         book.addInterviewer(99, 1, 30);
         book.endDay();
         expectRound("9 the house at 8 is nearest to the home", book, 0, 100, 2, 0);
-        Fieldbook far = Studies.drawn(20, 31, 6);
+        Study far = Studies.drawn(20, 31, 6);
         far.addInterviewer(14, 1, 84);
         far.endDay();
         // 6 minutes to 20; from there 11 + 30 + 17 are too many, 14 + 30 + 8 are not (36 + 52 > 84).
         expectRound("9 no second one", far, 0, 42, 0);
-        Fieldbook fits = Studies.drawn(20, 31, 6);
+        Study fits = Studies.drawn(20, 31, 6);
         fits.addInterviewer(14, 1, 88);
         fits.endDay();
         expectRound("9 the farther one fits", fits, 0, 88, 0, 2);
     }
 
     private static void languages() {
-        Fieldbook book = new Fieldbook();
+        Study book = new Study();
         book.addStratum();
         for (int house = 0; house < 6; house++) {
             book.addHouse(0, house, house % 3);
@@ -112,7 +112,7 @@ public final class RoundsTest {
     }
 
     private static void oneBehindTheOther() {
-        Fieldbook book = Studies.drawn(0, 50, 99);
+        Study book = Studies.drawn(0, 50, 99);
         book.addInterviewer(50, 1, 129);
         book.addInterviewer(50, 1, 600);
         book.endDay();
@@ -121,7 +121,7 @@ public final class RoundsTest {
     }
 
     private static void refusedInterviewers() {
-        Fieldbook book = Studies.drawn(50);
+        Study book = Studies.drawn(50);
         book.addInterviewer(50, 1, 600);
         book.endDay();
         book.visit(0, 'r', 0);
@@ -134,7 +134,7 @@ public final class RoundsTest {
     }
 
     private static void wantedLater() {
-        Fieldbook book = Studies.drawn(50, 60);
+        Study book = Studies.drawn(50, 60);
         book.addInterviewer(50, 1, 600);
         book.endDay();
         book.visit(0, 'n', 0);
@@ -151,7 +151,7 @@ public final class RoundsTest {
     }
 
     private static void notToldIsWantedStill() {
-        Fieldbook book = Studies.drawn(50);
+        Study book = Studies.drawn(50);
         book.addInterviewer(50, 1, 600);
         Studies.endDays(book, 5);
         expectRound("9 not told", book, 0, 30, 0);
@@ -160,7 +160,7 @@ public final class RoundsTest {
     }
 
     private static void barredHaveNone() {
-        Fieldbook book = Studies.drawn(50, 51, 52);
+        Study book = Studies.drawn(50, 51, 52);
         book.addInterviewer(50, 1, 600);
         book.addInterviewer(50, 1, 600);
         book.endDay();
@@ -175,7 +175,7 @@ public final class RoundsTest {
     }
 
     private static void longestRound() {
-        Fieldbook book = Studies.drawn(new int[24]);
+        Study book = Studies.drawn(new int[24]);
         book.addInterviewer(0, 1, 600);
         book.addInterviewer(0, 1, 600);
         book.endDay();
@@ -186,7 +186,7 @@ public final class RoundsTest {
     }
 
     private static void errors() {
-        Fieldbook book = Studies.drawn(50);
+        Study book = Studies.drawn(50);
         for (int number : new int[] {-1, 0, 4, Integer.MAX_VALUE, Integer.MIN_VALUE}) {
             Expect.failsAlone(book, "8 none", IndexOutOfBoundsException.class, () -> book.roundSize(number));
             Expect.failsAlone(book, "9 none", IndexOutOfBoundsException.class, () -> book.roundAt(number, 0));

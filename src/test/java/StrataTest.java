@@ -16,18 +16,18 @@ public final class StrataTest {
     }
 
     private static void newObject() {
-        Fieldbook book = new Fieldbook();
+        Study book = new Study();
         Expect.same("1 day", book.day(), 0);
         Expect.same("1 chance", book.setChance(5), 1);
         Expect.fails("1 no stratum", IndexOutOfBoundsException.class, () -> book.target(0));
         Expect.fails("1 no house", IndexOutOfBoundsException.class, () -> book.stateOf(0));
         Expect.fails("1 no interviewer", IndexOutOfBoundsException.class, () -> book.faults(0));
         Expect.same("1 sum", book.weightedSum(), 0L);
-        Expect.same("1 other objects stand apart", new Fieldbook().setChance(0), 1);
+        Expect.same("1 other objects stand apart", new Study().setChance(0), 1);
     }
 
     private static void setChance() {
-        Fieldbook book = new Fieldbook();
+        Study book = new Study();
         Expect.same("2 first", book.setChance(0), 1);
         Expect.same("2 lowest", book.setChance(65535), 0);
         Expect.same("2 highest", book.setChance(77), 65535);
@@ -39,7 +39,7 @@ public final class StrataTest {
     }
 
     private static void addStratum() {
-        Fieldbook book = new Fieldbook();
+        Study book = new Study();
         for (int number = 0; number < 4; number++) {
             Expect.same("3 number", book.addStratum(), number);
             Expect.same("3 without houses", book.target(number), 0);
@@ -48,7 +48,7 @@ public final class StrataTest {
     }
 
     private static void addHouse() {
-        Fieldbook book = new Fieldbook();
+        Study book = new Study();
         Expect.failsAlone(book, "4 no stratum", IndexOutOfBoundsException.class, () -> book.addHouse(0, 100, 3));
         book.addStratum();
         Expect.failsAlone(book, "4 stratum first", IndexOutOfBoundsException.class, () -> book.addHouse(1, -1, -1));
@@ -70,7 +70,7 @@ public final class StrataTest {
     }
 
     private static void addInterviewer() {
-        Fieldbook book = Studies.drawn(10);
+        Study book = Studies.drawn(10);
         int[][] wrong = {{-1, 1, 60}, {100, 1, 60}, {0, 0, 60}, {0, 8, 60}, {0, -1, 60}, {0, 1, 29}, {0, 1, 601}};
         for (int[] row : wrong) {
             Expect.failsAlone(book, "5 out of range", IllegalArgumentException.class,
@@ -94,7 +94,7 @@ public final class StrataTest {
 
     /** The remainders of the chance numbers among 6, 5, 4, 3, 2 and 1 houses are 2, 3, 0, 2, 0 and 0. */
     private static void drawOneByOne() {
-        Fieldbook book = Studies.undrawn(1, 2, 3, 4, 5, 6);
+        Study book = Studies.undrawn(1, 2, 3, 4, 5, 6);
         int[] chances = {13448, 34353, 23896, 24161, 54312, 18577};
         int[] drawn = {2, 4, 0, 5, 1, 3};
         for (int k = 0; k < 6; k++) {
@@ -111,7 +111,7 @@ public final class StrataTest {
     }
 
     private static void drawSkipsWhatIsDrawn() {
-        Fieldbook book = new Fieldbook();
+        Study book = new Study();
         book.addStratum();
         book.addStratum();
         for (int number = 0; number < 8; number++) {
@@ -131,7 +131,7 @@ public final class StrataTest {
     }
 
     private static void drawErrors() {
-        Fieldbook book = Studies.undrawn(1, 2, 3);
+        Study book = Studies.undrawn(1, 2, 3);
         Expect.failsAlone(book, "6 no stratum", IndexOutOfBoundsException.class, () -> book.draw(1, 0));
         Expect.failsAlone(book, "6 stratum -1", IndexOutOfBoundsException.class, () -> book.draw(-1, 1));
         Expect.failsAlone(book, "6 none", IllegalArgumentException.class, () -> book.draw(0, 0));
@@ -149,7 +149,7 @@ public final class StrataTest {
     }
 
     private static void drawOnLaterDays() {
-        Fieldbook book = Studies.undrawn(5);
+        Study book = Studies.undrawn(5);
         book.addInterviewer(5, 1, 30);
         Studies.endDays(book, 4);
         book.draw(0, 1);

@@ -15,8 +15,8 @@ public final class VisitsTest {
         Expect.end();
     }
 
-    private static Fieldbook onDayOne(int... places) {
-        Fieldbook book = Studies.drawn(places);
+    private static Study onDayOne(int... places) {
+        Study book = Studies.drawn(places);
         book.addInterviewer(50, 1, 600);
         book.addInterviewer(50, 1, 600);
         book.endDay();
@@ -24,7 +24,7 @@ public final class VisitsTest {
     }
 
     private static void answers() {
-        Fieldbook book = onDayOne(0, 50, 99);
+        Study book = onDayOne(0, 50, 99);
         Expect.same("11 the interviewer", book.visit(0, 'a', 0), 0);
         Expect.same("14 answered", book.stateOf(0), 'a');
         Expect.same("16 first visit", book.codeOf(0), 110);
@@ -38,7 +38,7 @@ public final class VisitsTest {
         Expect.same("16 later visit", book.codeOf(2), 120);
         Expect.same("17 later visit", book.answerOf(2), 7);
 
-        Fieldbook two = Studies.drawn(10, 90);
+        Study two = Studies.drawn(10, 90);
         two.addInterviewer(10, 1, 30);
         two.addInterviewer(90, 1, 30);
         two.endDay();
@@ -47,7 +47,7 @@ public final class VisitsTest {
     }
 
     private static void nobodyThere() {
-        Fieldbook book = onDayOne(50);
+        Study book = onDayOne(50);
         book.visit(0, 'n', 0);
         Expect.same("11 first: the next day", book.wantedFrom(0), 2);
         Expect.same("14 wanted", book.stateOf(0), 'w');
@@ -67,7 +67,7 @@ public final class VisitsTest {
     }
 
     private static void refusals() {
-        Fieldbook book = onDayOne(50);
+        Study book = onDayOne(50);
         book.visit(0, 'r', 0);
         Expect.same("14 wanted", book.stateOf(0), 'w');
         Expect.same("15 the third next day", book.wantedFrom(0), 4);
@@ -80,7 +80,7 @@ public final class VisitsTest {
         Expect.same("16 refused", book.codeOf(0), 210);
         Expect.fails("15 not wanted", IllegalStateException.class, () -> book.wantedFrom(0));
 
-        Fieldbook mixed = onDayOne(50);
+        Study mixed = onDayOne(50);
         mixed.visit(0, 'n', 0);
         mixed.endDay();
         mixed.visit(0, 'r', 0);
@@ -92,7 +92,7 @@ public final class VisitsTest {
     }
 
     private static void emptyHouse() {
-        Fieldbook book = onDayOne(50);
+        Study book = onDayOne(50);
         book.visit(0, 'e', 9);
         Expect.same("14 empty", book.stateOf(0), 'e');
         Expect.same("16 empty", book.codeOf(0), 400);
@@ -102,7 +102,7 @@ public final class VisitsTest {
 
     /** Nobody twice, then two answers that are lost, then nobody for the third time. */
     private static void countsGoOnAcrossALostAnswer() {
-        Fieldbook book = onDayOne(50, 51);
+        Study book = onDayOne(50, 51);
         book.visit(0, 'n', 0);
         book.endDay();
         book.visit(0, 'n', 0);
@@ -125,7 +125,7 @@ public final class VisitsTest {
     }
 
     private static void refusedInterviewerStaysAcrossALostAnswer() {
-        Fieldbook book = onDayOne(50, 51);
+        Study book = onDayOne(50, 51);
         book.visit(0, 'r', 0);
         book.visit(1, 'a', 1);
         Studies.endDays(book, 3);
@@ -134,7 +134,7 @@ public final class VisitsTest {
         book.check(0, 2);
         book.endDay();
         Expect.same("8 nothing is wanted", book.roundSize(1), 0);
-        Fieldbook lost = onDayOne(50, 51, 52);
+        Study lost = onDayOne(50, 51, 52);
         lost.visit(0, 'r', 0);
         lost.visit(1, 'r', 0);
         Studies.endDays(lost, 3);
@@ -152,7 +152,7 @@ public final class VisitsTest {
     }
 
     private static void visitErrors() {
-        Fieldbook book = Studies.drawn(50, 99);
+        Study book = Studies.drawn(50, 99);
         book.addInterviewer(50, 1, 30);
         book.addHouse(0, 50, 0);
         Expect.failsAlone(book, "11 day 0", IllegalStateException.class, () -> book.visit(0, 'a', 1));
@@ -180,7 +180,7 @@ public final class VisitsTest {
     }
 
     private static void barredInterviewer() {
-        Fieldbook book = onDayOne(50, 51, 52);
+        Study book = onDayOne(50, 51, 52);
         book.visit(0, 'a', 1);
         book.visit(1, 'a', 1);
         book.check(0, 0);
@@ -193,7 +193,7 @@ public final class VisitsTest {
     }
 
     private static void askErrors() {
-        Fieldbook book = new Fieldbook();
+        Study book = new Study();
         Expect.fails("14 none", IndexOutOfBoundsException.class, () -> book.stateOf(0));
         book.addStratum();
         book.addHouse(0, 0, 0);

@@ -17,42 +17,20 @@ public final class WeightsTest {
         Expect.end();
     }
 
-    /** Houses are rows of a stratum and a language, all of them drawn; they are visited on the day 1. */
-    private static Fieldbook onDayOne(int[][] houses) {
-        Fieldbook book = new Fieldbook();
-        for (int stratum = 0; stratum < 4; stratum++) {
-            book.addStratum();
-        }
-        int[] drawn = new int[4];
-        for (int[] house : houses) {
-            book.addHouse(house[0], 50, house[1]);
-            drawn[house[0]]++;
-        }
-        for (int stratum = 0; stratum < 4; stratum++) {
-            if (drawn[stratum] > 0) {
-                book.draw(stratum, drawn[stratum]);
-            }
-        }
-        book.addInterviewer(50, 7, 600);
-        book.addInterviewer(50, 7, 600);
-        book.endDay();
-        return book;
-    }
-
-    private static void answer(Fieldbook book, int answer, int... houses) {
+    private static void answer(Study book, int answer, int... houses) {
         for (int house : houses) {
             book.visit(house, 'a', answer);
         }
     }
 
-    private static void expectWeight(Fieldbook book, int house, int due) {
+    private static void expectWeight(Study book, int house, int due) {
         Expect.same("21 house " + house, book.weight(house), due);
         Expect.same("22 house " + house, book.weightAnew(house), due);
         Expect.same("27 sound", book.isSound(), true);
     }
 
     private static void targets() {
-        Fieldbook book = new Fieldbook();
+        Study book = new Study();
         book.addStratum();
         book.addStratum();
         for (int k = 0; k < 12; k++) {
@@ -70,7 +48,7 @@ public final class WeightsTest {
     }
 
     private static void oneStratum() {
-        Fieldbook book = onDayOne(new int[][] {{0, 0}, {0, 0}, {0, 0}, {0, 0}});
+        Study book = Studies.dayOneOf(new int[][] {{0, 0}, {0, 0}, {0, 0}, {0, 0}});
         answer(book, 2, 3);
         expectWeight(book, 3, 4000);
         answer(book, 5, 1);
@@ -88,7 +66,7 @@ public final class WeightsTest {
 
     private static void mixedStrata() {
         int[][] houses = {{0, 0}, {0, 1}, {0, 0}, {1, 1}, {1, 0}, {1, 2}};
-        Fieldbook book = onDayOne(houses);
+        Study book = Studies.dayOneOf(houses);
         answer(book, 1, 0, 1, 3, 4);
         int[] due = {1800, 1200, 0, 1200, 1800};
         for (int house : new int[] {0, 1, 3, 4}) {
@@ -102,7 +80,7 @@ public final class WeightsTest {
         Expect.same("23 language 0", book.weightOfLanguage(0), 3000);
         Expect.same("23 language 1", book.weightOfLanguage(1), 2000);
         Expect.same("23 language 2", book.weightOfLanguage(2), 1000);
-        Fieldbook three = onDayOne(houses);
+        Study three = Studies.dayOneOf(houses);
         answer(three, 1, 1, 2, 4);
         expectWeight(three, 1, 2271);
         expectWeight(three, 2, 729);
@@ -110,8 +88,8 @@ public final class WeightsTest {
     }
 
     /** Houses of the language 0 are lost, and those of the language 1 that replace them have no target. */
-    private static Fieldbook withReplacements(int kept) {
-        Fieldbook book = onDayOne(new int[][] {{0, 0}, {0, 0}, {0, 0}});
+    private static Study withReplacements(int kept) {
+        Study book = Studies.dayOneOf(new int[][] {{0, 0}, {0, 0}, {0, 0}});
         for (int house = kept; house < 3; house++) {
             book.addHouse(0, 50, 1);
             book.visit(house, 'e', 0);
@@ -121,7 +99,7 @@ public final class WeightsTest {
     }
 
     private static void replacementsOnly() {
-        Fieldbook book = withReplacements(0);
+        Study book = withReplacements(0);
         answer(book, 1, 3, 4);
         expectWeight(book, 3, 1500);
         expectWeight(book, 4, 1500);
@@ -132,7 +110,7 @@ public final class WeightsTest {
     }
 
     private static void replacementsOfALanguageWithoutTarget() {
-        Fieldbook book = withReplacements(1);
+        Study book = withReplacements(1);
         answer(book, 4, 0);
         answer(book, 5, 3, 4);
         expectWeight(book, 0, 3000);
@@ -144,7 +122,7 @@ public final class WeightsTest {
     }
 
     private static void twoStrataWithReplacements() {
-        Fieldbook book = onDayOne(new int[][] {{0, 0}, {0, 0}, {1, 0}, {1, 1}});
+        Study book = Studies.dayOneOf(new int[][] {{0, 0}, {0, 0}, {1, 0}, {1, 1}});
         book.addHouse(0, 50, 1);
         book.addHouse(0, 50, 1);
         answer(book, 1, 2, 3);
@@ -192,7 +170,7 @@ public final class WeightsTest {
     }
 
     private static void laterDraws() {
-        Fieldbook book = onDayOne(new int[][] {{0, 0}, {0, 0}});
+        Study book = Studies.dayOneOf(new int[][] {{0, 0}, {0, 0}});
         answer(book, 3, 0);
         expectWeight(book, 0, 2000);
         book.addHouse(0, 50, 2);
@@ -206,7 +184,7 @@ public final class WeightsTest {
     }
 
     private static void lostAnswers() {
-        Fieldbook book = new Fieldbook();
+        Study book = new Study();
         book.addStratum();
         for (int house = 0; house < 4; house++) {
             book.addHouse(0, house < 2 ? 0 : 99, 0);
@@ -239,7 +217,7 @@ public final class WeightsTest {
     }
 
     private static void meanAndRate() {
-        Fieldbook book = Studies.undrawn(50, 50, 50, 50);
+        Study book = Studies.undrawn(50, 50, 50, 50);
         book.addInterviewer(50, 1, 600);
         Expect.failsAlone(book, "25 no weights", ArithmeticException.class, book::weightedMean);
         Expect.failsAlone(book, "26 no house is drawn", ArithmeticException.class, book::rate);
@@ -259,12 +237,12 @@ public final class WeightsTest {
         book.visit(book.roundAt(0, 0), 'r', 0);
         Expect.same("26 with the one that refuses", book.rate(), 2.0f / 3.0f);
 
-        Fieldbook empty = Studies.drawn(50);
+        Study empty = Studies.drawn(50);
         empty.addInterviewer(50, 1, 600);
         empty.endDay();
         empty.visit(0, 'e', 0);
         Expect.failsAlone(empty, "26 but one empty house", ArithmeticException.class, empty::rate);
-        Fieldbook zero = Studies.drawn(50);
+        Study zero = Studies.drawn(50);
         zero.addInterviewer(50, 1, 600);
         zero.endDay();
         zero.visit(0, 'a', 0);
@@ -280,7 +258,7 @@ public final class WeightsTest {
         for (int house = 0; house < 24; house++) {
             houses[house] = new int[] {house % 4, house % 3};
         }
-        Fieldbook book = onDayOne(houses);
+        Study book = Studies.dayOneOf(houses);
         book.addInterviewer(50, 7, 600);
         book.addInterviewer(50, 7, 600);
         int[] takers = new int[24];
@@ -303,7 +281,7 @@ public final class WeightsTest {
         expectAgreement(book);
     }
 
-    private static void tellAll(Fieldbook book, char outcome, int[] takers) {
+    private static void tellAll(Study book, char outcome, int[] takers) {
         for (int house = 0; house < 24; house++) {
             int asked = house;
             Object taker = Expect.outcomeOf(() -> book.visit(asked, outcome, asked % 10));
@@ -314,7 +292,7 @@ public final class WeightsTest {
     }
 
     /** All unchecked answers to the interviewer are right but for the last two. */
-    private static void checkAllAnswers(Fieldbook book, int interviewer, int[] takers) {
+    private static void checkAllAnswers(Study book, int interviewer, int[] takers) {
         int left = book.answersTo(interviewer);
         for (int house = 0; house < 24; house++) {
             if (book.stateOf(house) == 'a' && takers[house] == interviewer) {
@@ -326,7 +304,8 @@ public final class WeightsTest {
         }
     }
 
-    private static void expectAgreement(Fieldbook book) {
+    private static void expectAgreement(Study study) {
+        Fieldbook book = study.again();
         for (int house = 0; house < 24; house++) {
             if (book.stateOf(house) == 'a') {
                 Expect.same("22 house " + house, book.weightAnew(house), book.weight(house));
@@ -339,7 +318,7 @@ public final class WeightsTest {
     }
 
     private static void errors() {
-        Fieldbook book = onDayOne(new int[][] {{0, 0}, {1, 1}});
+        Study book = Studies.dayOneOf(new int[][] {{0, 0}, {1, 1}});
         book.visit(0, 'n', 0);
         for (int number : new int[] {-1, 4, Integer.MIN_VALUE, Integer.MAX_VALUE}) {
             Expect.fails("20 stratum", IndexOutOfBoundsException.class, () -> book.target(number));
