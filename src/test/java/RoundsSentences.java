@@ -32,6 +32,7 @@ final class RoundsSentences {
         Sentences.holds(0, NEAREST, RoundsSentences::wantedFromThisDayOrEarlier);
         Sentences.holds(0, NEAREST, RoundsSentences::oneLanguageAndAllOthers);
         Sentences.holds(0, NEAREST, RoundsSentences::refusedThisInterviewer);
+        Sentences.holds(0, NEAREST, RoundsSentences::refusedEachInterviewer);
         Sentences.holds(0, NEAREST, RoundsSentences::inOneRoundOnly);
         Sentences.holds(0, NEAREST, RoundsSentences::firstHouseJustFits);
         Sentences.holds(0, NEAREST, RoundsSentences::laterHouseJustFits);
@@ -201,6 +202,23 @@ final class RoundsSentences {
         expectRound(study, 0, 30, 1);
         expectRound(study, 1, 30, 0);
         expectRound(study, 2, 0);
+    }
+
+    /** Nobody but the one interviewer has the time to go to the house. */
+    private static void refusedEachInterviewer() {
+        for (int refused = 0; refused < 4; refused++) {
+            Study study = Studies.drawn(99);
+            for (int interviewer = 0; interviewer < 4; interviewer++) {
+                study.addInterviewer(0, 1, interviewer == refused ? 600 : 200);
+            }
+            study.endDay();
+            Expect.same("the visit", study.visit(0, 'r', 0), refused);
+            Studies.endDays(study, 3);
+            for (int interviewer = 0; interviewer < 4; interviewer++) {
+                expectRound(study, interviewer, 0);
+            }
+            Expect.same("wanted", study.wantedFrom(0), study.day());
+        }
     }
 
     private static void inOneRoundOnly() {

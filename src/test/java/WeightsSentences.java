@@ -1,6 +1,8 @@
 import static java.lang.Integer.MAX_VALUE;
 import static java.lang.Integer.MIN_VALUE;
 
+import java.util.NoSuchElementException;
+
 /** Weights; promises 20 to 27. */
 final class WeightsSentences {
     private static final int[] NO_HOUSES_OF_FIVE = {-1, 5, 23, 24, MIN_VALUE, MAX_VALUE};
@@ -43,8 +45,10 @@ final class WeightsSentences {
                 WeightsSentences::weightOfNoHouse);
         Sentences.holds(21, "Throws `NoSuchElementException` if it has not answered",
                 WeightsSentences::weightWithoutAnswer);
-        Sentences.holds(22, "Returns the same weight, from all that came of visits and checks since the beginning.",
-                WeightsSentences::sameWeightBehindAllCalls);
+        String anew = "Returns the same weight, from all that came of visits and checks since the beginning.";
+        Sentences.holds(22, anew, WeightsSentences::sameWeightBehindAllCalls);
+        Sentences.holds(22, anew, WeightsSentences::sameWeightBehindEachPairOfAnswers);
+        Sentences.holds(22, anew, WeightsSentences::sameWeightWithAll);
         Sentences.holds(22, "Throws `IndexOutOfBoundsException` if there is no such house",
                 WeightsSentences::weightAnewOfNoHouse);
         Sentences.holds(22, "Throws `NoSuchElementException` if it has not answered",
@@ -84,7 +88,7 @@ final class WeightsSentences {
             int asked = house;
             Object weight = Expect.outcomeOf(() -> study.weight(asked));
             Object anew = Expect.outcomeOf(() -> study.weightAnew(asked));
-            Object expected = due[house] < 0 ? java.util.NoSuchElementException.class : (Object) due[house];
+            Object expected = due[house] < 0 ? NoSuchElementException.class : (Object) due[house];
             Expect.same("weight of " + house, weight, expected);
             Expect.same("weight anew of " + house, anew, expected);
         }
@@ -341,6 +345,39 @@ final class WeightsSentences {
         answer(study, 1, 0, 1, 2, 3, 4);
         study.check(3, 0);
         expectAgreement(study, 5);
+    }
+
+    /** The houses 0 to 19 are those of the interviewer 0, who is barred if both answers are other ones. */
+    private static void sameWeightBehindEachPairOfAnswers() {
+        for (int first = 0; first <= 9; first++) {
+            for (int second = 0; second <= 9; second++) {
+                Study study = Studies.dayOneOf(new int[21][2]);
+                answer(study, first, 0, 1, 20);
+                study.check(0, second);
+                study.check(1, second);
+                int due = first == second ? 7000 : 21000;
+                Expect.same(first + " then " + second, study.weight(20), due);
+                Expect.same(first + " then " + second + " anew", study.weightAnew(20), due);
+            }
+        }
+    }
+
+    private static void sameWeightWithAll() {
+        int[][] houses = new int[24][];
+        for (int house = 0; house < 24; house++) {
+            houses[house] = new int[] {house % 4, house % 3};
+        }
+        Study study = Studies.dayOneOf(houses);
+        for (int house = 23; house >= 0; house--) {
+            answer(study, house % 10, house);
+            Expect.same("house " + house, study.weightAnew(house), study.weight(house));
+        }
+        for (int house = 0; house < 24; house++) {
+            Expect.same("all of 24, house " + house, study.weight(house), 1000);
+            Expect.same("all of 24, house " + house, study.weightAnew(house), 1000);
+        }
+        Expect.same("of the interviewer 0", study.answersTo(0), 20);
+        Expect.same("of the interviewer 1", study.answersTo(1), 4);
     }
 
     private static void expectAgreement(Study study, int answers) {
