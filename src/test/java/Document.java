@@ -8,6 +8,7 @@ import java.util.List;
 final class Document {
     private final List<String> boundaries = new ArrayList<>();
     private final List<String> others = new ArrayList<>();
+    private final List<String> face = new ArrayList<>();
 
     private Document() {
     }
@@ -35,14 +36,30 @@ final class Document {
         return boundaries.contains(key) || others.contains(key);
     }
 
+    /** The constructor and the methods, without the names of their parameters. */
+    List<String> face() {
+        return face;
+    }
+
     private void read(String text) {
         for (String section : text.split("\n## ")) {
-            if (section.startsWith("What it is\n")) {
+            if (section.startsWith("The public face\n")) {
+                readFace(section);
+            } else if (section.startsWith("What it is\n")) {
                 readTerms(section.substring(section.indexOf('\n')), false);
             } else if (section.startsWith("Terms\n")) {
                 readTerms(section.substring(section.indexOf('\n')), true);
             } else if (section.startsWith("Promise ")) {
                 readPromise(section);
+            }
+        }
+    }
+
+    private void readFace(String section) {
+        for (String line : section.split("\n")) {
+            if (line.startsWith("    public ")) {
+                // A parameter's name begins with a small letter, an exception's name behind 'throws' does not.
+                face.add(line.strip().replace(";", "").replaceAll("([a-z]+) [a-z]\\w*(?=[,)])", "$1"));
             }
         }
     }
